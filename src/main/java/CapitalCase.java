@@ -588,6 +588,13 @@ public final class CapitalCase {
             }
         }
 
+        /** A skip goes to the step that comes next now. */
+        void leadOn(int skip) {
+            if (skip >= 0 && skip < STEPS) {
+                operand[skip] = steps;
+            }
+        }
+
         void become(Script other) {
             houses = other.houses;
             verses = other.verses;
@@ -755,9 +762,35 @@ public final class CapitalCase {
             fault = 0;
             laterFault = 0;
             nameCount = 0;
-            boolean going = true;
-            for (int i = 0; i <= Tokens.MOST && going && next() != Tokens.END; i++) {
-                going = parseTell();
+            for (int i = 0; i <= Tokens.MOST && fault == 0 && next() != Tokens.END; i++) {
+                switch (next()) {
+                    case Tokens.HOUSE:
+                        parseHouse();
+                        break;
+                    case Tokens.VERSE:
+                        parseVerse();
+                        break;
+                    case Tokens.LEAVE:
+                        parseLaw(Script.LEAVE);
+                        break;
+                    case Tokens.RANK:
+                        parseLaw(Script.RANK);
+                        break;
+                    case Tokens.WEARS:
+                        parseLaw(Script.WEARS);
+                        break;
+                    case Tokens.PAYS:
+                        parseLaw(Script.PAYS);
+                        break;
+                    case Tokens.SPOILS:
+                    case Tokens.THIEVES:
+                    case Tokens.SEED:
+                        parseNumber(next());
+                        break;
+                    default:
+                        fail(SYNTAX);
+                        break;
+                }
             }
             if (fault == 0) {
                 fault = laterFault;
@@ -768,29 +801,6 @@ public final class CapitalCase {
 
         private int next() {
             return at <= Tokens.MOST ? tokens.kind[at] : Tokens.END;
-        }
-
-        private boolean parseTell() {
-            switch (next()) {
-                case Tokens.HOUSE:
-                    return parseHouse();
-                case Tokens.VERSE:
-                    return parseVerse();
-                case Tokens.LEAVE:
-                    return parseLaw(Script.LEAVE);
-                case Tokens.RANK:
-                    return parseLaw(Script.RANK);
-                case Tokens.WEARS:
-                    return parseLaw(Script.WEARS);
-                case Tokens.PAYS:
-                    return parseLaw(Script.PAYS);
-                case Tokens.SPOILS:
-                case Tokens.THIEVES:
-                case Tokens.SEED:
-                    return parseNumber(next());
-                default:
-                    return fail(SYNTAX);
-            }
         }
 
         private boolean fail(int number) {
@@ -817,13 +827,14 @@ public final class CapitalCase {
             }
         }
 
-        private boolean parseHouse() {
+        private void parseHouse() {
             if (script.houses >= HOUSES) {
-                return fail(ROOM);
+                fail(ROOM);
+                return;
             }
             int first = at;
             if (!accept(Tokens.HOUSE) || !accept(Tokens.NAME) || !accept(Tokens.NAME) || !accept(';')) {
-                return false;
+                return;
             }
             noteName(first + 1);
             noteLater(!areLetters(first + 2), NOT_LETTERS, first + 2);
@@ -834,17 +845,17 @@ public final class CapitalCase {
                 }
             }
             script.houses++;
-            return true;
         }
 
-        private boolean parseVerse() {
+        private void parseVerse() {
             if (script.verses >= VERSES) {
-                return fail(ROOM);
+                fail(ROOM);
+                return;
             }
             int first = at;
             if (!accept(Tokens.VERSE) || !accept(Tokens.NAME) || !accept(Tokens.NAME) || !accept(Tokens.INT)
                     || !accept(Tokens.INT) || !accept(';')) {
-                return false;
+                return;
             }
             noteName(first + 1);
             noteLater(!areLetters(first + 2), NOT_LETTERS, first + 2);
@@ -860,13 +871,12 @@ public final class CapitalCase {
                 }
             }
             script.verses++;
-            return true;
         }
 
-        private boolean parseNumber(int word) {
+        private void parseNumber(int word) {
             int first = at;
             if (!accept(word) || !accept(Tokens.INT) || !accept(';')) {
-                return false;
+                return;
             }
             if (word == Tokens.SPOILS) {
                 script.spoils = intOf(first + 1, 1, 99);
@@ -875,7 +885,6 @@ public final class CapitalCase {
             } else {
                 script.seed = intOf(first + 1, 0, 9999);
             }
-            return true;
         }
 
         private void noteName(int token) {
@@ -922,41 +931,32 @@ public final class CapitalCase {
             return number;
         }
 
-        private boolean parseLaw(int law) {
+        private void parseLaw(int law) {
             int start = script.steps;
             if (!accept(next()) || !accept('=')) {
-                return false;
+                return;
             }
             for (int ifs = 0; next() == Tokens.IF; ifs++) {
                 if (ifs >= MOST_IFS) {
-                    return fail(ROOM);
+                    fail(ROOM);
+                    return;
                 }
-                if (!parseIf()) {
-                    return false;
+                if (!accept(Tokens.IF) || !parseSum(0) || !accept('<') || !parseSum(0)) {
+                    return;
                 }
+                int skip = script.steps;
+                script.add(Script.SKIP_UNLESS_LESS, 0);
+                if (!accept(Tokens.THEN) || !parseSum(0) || !accept(Tokens.ELSE)) {
+                    return;
+                }
+                script.add(Script.ANSWER, 0);
+                script.leadOn(skip);
             }
             if (!parseSum(0) || !accept(';')) {
-                return false;
+                return;
             }
             script.add(Script.ANSWER, 0);
             script.lawStart[law] = start;
-            return true;
-        }
-
-        private boolean parseIf() {
-            if (!accept(Tokens.IF) || !parseSum(0) || !accept('<') || !parseSum(0)) {
-                return false;
-            }
-            int skip = script.steps;
-            script.add(Script.SKIP_UNLESS_LESS, 0);
-            if (!accept(Tokens.THEN) || !parseSum(0) || !accept(Tokens.ELSE)) {
-                return false;
-            }
-            script.add(Script.ANSWER, 0);
-            if (skip < Script.STEPS) {
-                script.operand[skip] = script.steps;
-            }
-            return true;
         }
 
         private boolean parseSum(int depth) {
@@ -1228,13 +1228,20 @@ public final class CapitalCase {
             }
         }
 
-        /** A day but for its thieves and its end. */
-        void work(Town town) {
+        /** What is paid with the next day. */
+        int owed(Town town) {
+            int sum = 0;
             for (int verse = 0; verse < script.verses; verse++) {
                 if ((town.set & ~town.done & 1 << verse) != 0) {
-                    town.paid += judge.pays(verse, town.day);
+                    sum += judge.pays(verse, town.day);
                 }
             }
+            return sum;
+        }
+
+        /** A day but for its thieves and its end. */
+        void work(Town town) {
+            town.paid += owed(town);
             town.done |= town.set;
             for (int house = 0; house < script.houses; house++) {
                 for (int letter = 0; letter < LETTERS; letter++) {
@@ -1308,7 +1315,8 @@ public final class CapitalCase {
         int clashes;
         int most;
         int mask;
-        private int open;
+        /** The verses that are looked at (bits). */
+        private int looked;
         /** Of a verse's letter, the houses that give leave, the most rank first, and their ranks. */
         private final int[] givers = new int[VERSES * CELLS];
         private final int[] ranks = new int[VERSES * CELLS];
@@ -1321,6 +1329,9 @@ public final class CapitalCase {
 
         /** The laws look at nothing that setting changes, so they are asked once. */
         void prepare(Town town, int verses) {
+            looked = verses;
+            most = 0;
+            mask = 0;
             for (int cell = 0; cell < CELLS; cell++) {
                 free[cell] = town.free(cell);
             }
@@ -1400,23 +1411,16 @@ public final class CapitalCase {
         }
 
         void seek(Town town) {
-            prepareOpen(town);
+            prepare(town, town.open(script.verses));
             search(0, 0, 0);
         }
 
         void seekWithout(Town town, int house) {
-            prepareOpen(town);
+            prepare(town, town.open(script.verses));
             for (int letter = 0; letter < LETTERS; letter++) {
                 free[house * LETTERS + letter] = 0;
             }
             search(0, 0, 0);
-        }
-
-        private void prepareOpen(Town town) {
-            open = town.open(script.verses);
-            prepare(town, open);
-            most = 0;
-            mask = 0;
         }
 
         /** Goes on from verse, with those of chosen taken already. */
@@ -1428,7 +1432,7 @@ public final class CapitalCase {
                 }
                 return;
             }
-            if ((open >> verse & 1) == 1 && take(verse)) {
+            if ((looked >> verse & 1) == 1 && take(verse)) {
                 search(verse + 1, chosen | 1 << verse, brings + pays[verse]);
                 giveUp(verse, script.wide[verse]);
             }
@@ -1462,7 +1466,7 @@ public final class CapitalCase {
             for (int verse = 0; verse < script.verses; verse++) {
                 paysLater[verse] = judge.pays(verse, town.day + 1);
             }
-            int anyway = paidAnyway(town);
+            int anyway = press.owed(town);
             most = NONE;
             mask = 0;
             for (int chosen = 0; chosen < 1 << script.verses; chosen++) {
@@ -1482,16 +1486,6 @@ public final class CapitalCase {
                     mask = chosen;
                 }
             }
-        }
-
-        private int paidAnyway(Town town) {
-            int sum = 0;
-            for (int verse = 0; verse < script.verses; verse++) {
-                if ((town.set & ~town.done & 1 << verse) != 0) {
-                    sum += judge.pays(verse, town.day);
-                }
-            }
-            return sum;
         }
 
         private int total(int[] pays, int verses) {
