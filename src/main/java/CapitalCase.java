@@ -1113,7 +1113,7 @@ public final class CapitalCase {
         static final int LONG = 7;
         static final int LENT = 8;
         static final int VARS = 9;
-        /** Six brackets with two numbers waiting ahead of each, the other side of a <, and two more. */
+        /** Six brackets with two numbers waiting ahead of each, the left side of a <, and three more. */
         static final int DEEPEST = 16;
 
         final Script script;

@@ -43,6 +43,9 @@ public final class ModelTest {
             int kind = under(made == 0 || under(120) == 0 ? 2 : KINDS);
             if (kind < 2 && made < 480 && (kind == 0 || under(40) == 0 || made == 0)) {
                 made += readText();
+                for (int again = 0; again < 3 && x.count(0) == 0; again++) {
+                    made += readText();
+                }
             } else {
                 kind = 2 + under(KINDS - 2);
                 int[] a = {about(6), about(8), about(8), about(8)};
@@ -56,7 +59,7 @@ public final class ModelTest {
 
     private int readText() {
         String text = maker.text();
-        text = text.length() > 400 ? text.substring(0, 400) : text;
+        text = text.length() > 1500 ? text.substring(0, 1500) : text;
         int made = 0;
         for (int at = 0; at < text.length(); at += 20) {
             int[] n = new int[5];

@@ -106,7 +106,7 @@ final class TextMaker {
             return "";
         }
         int at = under(out.length());
-        switch (under(6)) {
+        switch (under(10)) {
             case 0:
                 out.deleteCharAt(at);
                 break;
@@ -122,9 +122,17 @@ final class TextMaker {
             case 4:
                 out.setLength(at);
                 break;
-            default:
+            case 5:
                 out.append(out.substring(at));
                 break;
+            case 6:
+                return out.toString().replaceFirst(" h[b-e] ", " ha ");
+            case 7:
+                return out.toString().replaceFirst(" v[b-g] ", " ha ");
+            case 8:
+                return out.toString().replaceFirst("[a-h] ?;", "i;");
+            default:
+                return out.toString().replaceFirst(" [0-9]+;", " 10" + under(3) + ";");
         }
         return out.toString();
     }
