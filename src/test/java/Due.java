@@ -1,9 +1,15 @@
+import java.io.IOException;
 import java.nio.charset.StandardCharsets;
+import java.nio.file.Files;
+import java.nio.file.Path;
 
 /** Compares answers with what is due, and feeds texts: what every test here uses. */
 final class Due {
     private static int looked = 0;
     private static int wrong = 0;
+    private static String document = null;
+    private static String sentence = "";
+    private static int lookedAhead = 0;
 
     private Due() {
     }
@@ -12,8 +18,36 @@ final class Due {
         looked++;
         if (got != want) {
             wrong++;
-            System.out.println(call + " answered " + got + ", due is " + want);
+            System.out.println(sentence + call + " answered " + got + ", due is " + want);
         }
+    }
+
+    /** What comes next looks at this sentence of the document; one that is not there is told, but is no fault. */
+    static void of(String quote) {
+        closeSentence();
+        lookedAhead = looked;
+        sentence = "\"" + quote + "\": ";
+        if (!document().contains(quote)) {
+            System.out.println("the document does not say " + sentence);
+        }
+    }
+
+    private static void closeSentence() {
+        if (!sentence.isEmpty() && looked == lookedAhead) {
+            wrong++;
+            System.out.println(sentence + "nothing was looked at");
+        }
+    }
+
+    private static String document() {
+        if (document == null) {
+            try {
+                document = Files.readString(Path.of("../shared/DOC.md")).replaceAll("\\s+", " ").replace("`", "");
+            } catch (IOException e) {
+                document = "";
+            }
+        }
+        return document;
     }
 
     static void due(String call, boolean got, boolean want) {
@@ -55,6 +89,7 @@ final class Due {
     }
 
     static void end() {
+        closeSentence();
         System.out.println(looked + " answers looked at, " + wrong + " not as due");
         if (wrong != 0 || looked == 0) {
             System.exit(1);

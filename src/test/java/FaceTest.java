@@ -26,6 +26,12 @@ public final class FaceTest {
     public static void main(String[] args) throws Exception {
         face();
         source(Files.readString(Path.of("src/main/java/CapitalCase.java")));
+        size(CapitalCase.class);
+        Due.due("classes", CapitalCase.class.getDeclaredClasses().length <= 12, true);
+        for (Class<?> inside : CapitalCase.class.getDeclaredClasses()) {
+            size(inside);
+            Due.due("classes inside " + inside, inside.getDeclaredClasses().length, 0);
+        }
         Due.end();
     }
 
@@ -59,6 +65,26 @@ public final class FaceTest {
         for (Class<?> inside : CapitalCase.class.getDeclaredClasses()) {
             Due.due(inside + " is static", Modifier.isStatic(inside.getModifiers()), true);
             Due.due(inside + " is private", Modifier.isPrivate(inside.getModifiers()), true);
+        }
+    }
+
+    /** Few fields and parameters, and no state that is static. */
+    private static void size(Class<?> one) {
+        int fields = 0;
+        for (Field field : one.getDeclaredFields()) {
+            if (Modifier.isStatic(field.getModifiers())) {
+                Due.due(field + " is final", Modifier.isFinal(field.getModifiers()), true);
+                Due.due(field + " is an int or a String", field.getType() == int.class || field.getType() == String.class, true);
+            } else {
+                fields++;
+            }
+        }
+        Due.due("the fields of " + one + " are few: " + fields, fields <= 20, true);
+        for (Method method : one.getDeclaredMethods()) {
+            Due.due(method + " takes seven parameters at most", method.getParameterCount() <= 7, true);
+        }
+        for (Constructor<?> constructor : one.getDeclaredConstructors()) {
+            Due.due(constructor + " takes seven parameters at most", constructor.getParameterCount() <= 7, true);
         }
     }
 
