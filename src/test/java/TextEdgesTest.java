@@ -220,6 +220,13 @@ public final class TextEdgesTest {
         Due.due("four", x.house(1, 7, 0), 4);
         Due.due("eight wanted", x.verse(0, 2), 8);
         Due.due("the last one", x.wants(0, 7), 7);
+        // what stands right behind the letters is none of them
+        x = Due.town("verse v b1 1;house h b;verse w bb2 2;");
+        Due.due("one b", x.loans(0, 0), 0);
+        Due.due("two b", x.loans(0, 1), -2);
+        Due.due("no h", x.strike(128), 3);
+        x = Due.town("house h b;" + " ".repeat(1977) + "verse v b1 1;");
+        Due.due("at the text's end", x.loans(0, 0), 0);
     }
 
     private static void numberedAsTheyStand() {
