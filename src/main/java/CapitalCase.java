@@ -1412,7 +1412,7 @@ public final class CapitalCase {
 
         void seek(Town town) {
             prepare(town, town.open(script.verses));
-            search(0, 0, 0);
+            search();
         }
 
         void seekWithout(Town town, int house) {
@@ -1420,23 +1420,46 @@ public final class CapitalCase {
             for (int letter = 0; letter < LETTERS; letter++) {
                 free[house * LETTERS + letter] = 0;
             }
-            search(0, 0, 0);
+            search();
         }
 
-        /** Goes on from verse, with those of chosen taken already. */
-        private void search(int verse, int chosen, int brings) {
-            if (verse >= script.verses) {
-                if (brings > most || brings == most && chosen < mask) {
-                    most = brings;
-                    mask = chosen;
+        /** By each set that can be: all that still go are taken, then the last one is left for those behind it. */
+        private void search() {
+            int chosen = 0;
+            int brings = 0;
+            int verse = 0;
+            for (int sets = 0; sets < 1 << VERSES; sets++) {
+                for (; verse < script.verses; verse++) {
+                    if ((looked >> verse & 1) == 1 && take(verse)) {
+                        chosen |= 1 << verse;
+                        brings += pays[verse];
+                    }
                 }
-                return;
+                keepIfMore(chosen, brings);
+                if (chosen == 0) {
+                    return;
+                }
+                int last = lastOf(chosen);
+                giveUp(last, script.wide[last]);
+                chosen &= ~(1 << last);
+                brings -= pays[last];
+                verse = last + 1;
             }
-            if ((looked >> verse & 1) == 1 && take(verse)) {
-                search(verse + 1, chosen | 1 << verse, brings + pays[verse]);
-                giveUp(verse, script.wide[verse]);
+        }
+
+        private void keepIfMore(int chosen, int brings) {
+            if (brings > most || brings == most && chosen < mask) {
+                most = brings;
+                mask = chosen;
             }
-            search(verse + 1, chosen, brings);
+        }
+
+        private static int lastOf(int verses) {
+            int last = VERSES - 1;
+            while (last > 0 && verses >> last == 0) {
+                last--;
+            }
+            return last;
         }
     }
 

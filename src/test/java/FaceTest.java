@@ -104,5 +104,26 @@ public final class FaceTest {
                 Due.due("lines of the method at " + start + " are few", i - start < 62 || start == 0, true);
             }
         }
+        callsOfItself(lines);
+    }
+
+    /** Rule 8: of the methods that call themselves only those are fine that are private and static. */
+    private static void callsOfItself(String[] lines) {
+        Pattern head = Pattern.compile("( +)((?:[a-z]+ )*)[A-Za-z]+(?:\\[\\])? ([a-zA-Z]+)\\(.*\\) \\{");
+        int methods = 0;
+        for (int i = 0; i < lines.length; i++) {
+            Matcher found = head.matcher(lines[i]);
+            if (!found.matches() || found.group(2).contains("else") || found.group(2).contains("new")) {
+                continue;
+            }
+            methods++;
+            boolean calls = false;
+            for (int j = i + 1; j < lines.length && !lines[j].equals(found.group(1) + "}"); j++) {
+                calls = calls || Pattern.compile("(?<![.\\w])(this\\.)?" + found.group(3) + "\\(").matcher(lines[j]).find();
+            }
+            boolean fine = !calls || found.group(2).contains("private static");
+            Due.due(found.group(3) + " calls itself only as LANGUAGE.md's rule 8 has it", fine, true);
+        }
+        Due.due("the methods of the source are seen: " + methods, methods > 100, true);
     }
 }

@@ -11,6 +11,7 @@ public final class WouldBeEdgesTest {
         openVerses();
         bestAllCanBe();
         bestLeastBits();
+        bestOfAllSets();
         bestEmpty();
         bestNone();
         worthMore();
@@ -103,6 +104,23 @@ public final class WouldBeEdgesTest {
         best(x, 10, 1);
         x.days(1);
         best(x, 8, 2);
+    }
+
+    /** Seven verses that all go together: each set is looked at, up to the last ones with the fewest verses. */
+    private static void bestOfAllSets() {
+        Due.of("of alike ones the least bits");
+        for (int bits = 0; bits < 128; bits++) {
+            StringBuilder text = new StringBuilder("house a abcdefgh;");
+            for (int verse = 0; verse < 7; verse++) {
+                text.append("verse ").append((char) ('p' + verse)).append(' ').append((char) ('a' + verse))
+                        .append((bits >> verse & 1) == 1 ? " 3 1;" : " 0 1;");
+            }
+            CapitalCase x = Due.town(text.toString());
+            best(x, 3 * Integer.bitCount(bits), bits);
+            Due.due("pillar(1)", x.pillar(1), 0);
+            Due.due("twoDays(0)", x.twoDays(0), 3 * Integer.bitCount(bits));
+            Due.due("twoDays(1)", x.twoDays(1), 0);
+        }
     }
 
     private static void bestLeastBits() {
